@@ -377,7 +377,7 @@ public final class ModuleYard {
         }
         trial.copyFrom(yard);
         for (int i = 0; i < ENDS_DAYS; i++) {
-            slots.passDay(trial);
+            slots.passDays(trial, 1);
             if (trial.queueLength < 1) {
                 return trial.today - 1;
             }
@@ -857,15 +857,11 @@ public final class ModuleYard {
 
         void passDays(Yard yard, int days) {
             for (int i = 0; i < days; i++) {
-                passDay(yard);
-            }
-        }
-
-        void passDay(Yard yard) {
-            boolean isLeft = yard.setTodays();
-            yard.today++;
-            if (isLeft) {
-                moveAll(yard);
+                boolean isLeft = yard.setTodays();
+                yard.today++;
+                if (isLeft) {
+                    moveAll(yard);
+                }
             }
         }
 

@@ -55,12 +55,12 @@ final class Script {
     }
 
     /** The answer as a text; "throws X" for the exception X of exactly this class. */
-    static String answer(ModuleYard yard, String call) {
+    static String answer(Object yard, String call) {
         String name = call.substring(0, call.indexOf('('));
         String list = call.substring(call.indexOf('(') + 1, call.lastIndexOf(')')).strip();
         String[] words = list.isEmpty() ? new String[0] : list.split("\\s*,\\s*");
         try {
-            Method method = methodOf(name);
+            Method method = methodOf(yard, name);
             return String.valueOf(method.invoke(yard, arguments(method, words)));
         } catch (InvocationTargetException e) {
             return "throws " + e.getCause().getClass().getSimpleName();
@@ -83,8 +83,8 @@ final class Script {
         }
     }
 
-    private static Method methodOf(String name) {
-        for (Method method : ModuleYard.class.getMethods()) {
+    private static Method methodOf(Object yard, String name) {
+        for (Method method : yard.getClass().getMethods()) {
             if (method.getName().equals(name)) {
                 return method;
             }
