@@ -9,6 +9,8 @@ public final class ForecastTest {
         worstTrade();
         heldShare();
         digest();
+        digestOfHeldShares();
+        digestOfNextDays();
         Script.close();
     }
 
@@ -235,6 +237,35 @@ public final class ForecastTest {
             }
             Script.due("promise 28", "digest() after " + call, yard.digest(), digestOf(yard, buffer.chars().toArray()));
         }
+    }
+
+    /** Shares that are powers of 2, and such as need all the bits. */
+    private static void digestOfHeldShares() {
+        for (int hold = 0; hold <= 30; hold++) {
+            for (int price : new int[] {4, 7, 100, 999, 9999}) {
+                ModuleYard yard = new ModuleYard();
+                Script.type(yard, "1:" + price);
+                yard.addHouse();
+                yard.set(2, hold);
+                yard.book(0, 0);
+                yard.pass(1);
+                String title = "promise 28: held are " + hold + " of 100 of " + price;
+                Script.due(title, "digest()", yard.digest(), digestOf(yard, new int[0]));
+            }
+        }
+    }
+
+    /** What is set within 9, 10 and 11 days is not the same. */
+    private static void digestOfNextDays() {
+        ModuleYard yard = new ModuleYard();
+        Script.type(yard, "1:1,1:2,1:3,1:4");
+        yard.addHouse();
+        yard.pass(3);
+        for (int number = 11; number <= 14; number++) {
+            yard.book(0, number);
+            Script.due("promise 28", "digest() with " + number, yard.digest(), digestOf(yard, new int[0]));
+        }
+        Script.due("promise 28", "ifPassed(10)", yard.ifPassed(10, ModuleYard.NONE), 2);
     }
 
     private static long digestOf(ModuleYard yard, int[] codes) {

@@ -72,6 +72,9 @@ public final class MoneyTest {
                 inspect(0, 0, 0, 1) throws IllegalState
                 inspect(0, 0, 0, 10) throws IllegalArgument
                 inspect(0, 0, 1, 1) = 1
+                module(0, 0, 7) = 100
+                house(0, 4) = 100
+                count(10) = 100
                 """);
         Script.run("promise 6: throws", SET + """
                 inspect(-1, 0, 0, 1) throws IndexOutOfBounds

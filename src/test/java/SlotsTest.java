@@ -155,6 +155,14 @@ public final class SlotsTest {
                 day(4, 1) = 3
                 day(4, 2) = 6
                 """);
+        Script.run("Slots: the day 0", THREE_HOUSES + """
+                book(0, 0) = 0
+                book(1, 0) = 0
+                book(0, 0) throws IllegalState
+                day(0, 1) = 2
+                day(0, 2) = 3
+                bestDay(0) = 1
+                """);
         Script.run("Slots: less room than is taken", TWO_HOUSES + """
                 book(0, 4) = 0
                 book(1, 4) = 0

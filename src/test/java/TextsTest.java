@@ -157,6 +157,9 @@ public final class TextsTest {
                 book(0, 0) = 0
                 undo() = 1
                 undo() = 0
+                count(0) = 0
+                count(1) = 0
+                house(0, 0) throws IndexOutOfBounds
                 text 1:2
                 addHouse() = 0
                 count(1) = 1
