@@ -4,32 +4,40 @@ import java.lang.reflect.Method;
 /**
  * Runs calls that stand in a text, one a line, on a new object:
  *
- *   text 1:100,2:50          appends each character
+ *   text 1:100,2:50          clears the buffer and appends each character
  *   book(0, 3) = 1           the call answers 1
  *   book(9, 3) throws IndexOutOfBounds
  *
- * A call that throws, and one that only asks, must leave the digest as it was.
+ * A call that throws, and one that only asks, must change nothing: the digest
+ * stays, and so does all that it does not tell. A twin, on which such calls
+ * are not made, must answer the same to the end: as long as calls are undone,
+ * and when all that is booked is moved in a storm.
  */
 final class Script {
+    // Behind so many calls of an object the document promises nothing.
+    private static final int MOST_CALLS = 512;
     private static final String CHANGING =
             " book unbook set pass inspect fix claim release append clearBuffer addHouse setWinds undo ";
+    private static final String[] UNDONE = {"undo()", "undo()", "undo()", "undo()", "undo()", "undo()", "undo()"};
+    private static final String[] STORM = {
+        "clearBuffer()", "append(57)", "setWinds()", "set(1, 3)", "set(0, 1)", "pass(1)", "pass(1)",
+    };
 
     private static int rows = 0;
     private static int wrong = 0;
 
-    private Script() {
+    private final String title;
+    private final ModuleYard yard = new ModuleYard();
+    private final ModuleYard twin = new ModuleYard();
+    private int calls = 0;
+
+    private Script(String title) {
+        this.title = title;
     }
 
     static void run(String title, String lines) {
-        ModuleYard yard = new ModuleYard();
-        for (String line : lines.split("\n")) {
-            String row = line.strip();
-            if (row.equals("text") || row.startsWith("text ")) {
-                type(yard, row.substring(4).strip());
-            } else if (!row.isEmpty() && !row.startsWith("#")) {
-                check(title, yard, row);
-            }
-        }
+        new Script(title).go(lines, UNDONE);
+        new Script(title).go(lines, STORM);
     }
 
     static void type(ModuleYard yard, String text) {
@@ -69,18 +77,40 @@ final class Script {
         }
     }
 
-    private static void check(String title, ModuleYard yard, String row) {
+    private void go(String lines, String[] end) {
+        for (String line : lines.split("\n")) {
+            String row = line.strip();
+            if (row.equals("text") || row.startsWith("text ")) {
+                String text = row.substring(4).strip();
+                type(yard, text);
+                type(twin, text);
+                calls += 1 + text.length();
+            } else if (!row.isEmpty() && !row.startsWith("#")) {
+                check(row);
+            }
+        }
+        for (String call : end) {
+            due(title, call + " at the end", answer(yard, call), answer(twin, call));
+            due(title, "digest() after " + call + " at the end", yard.digest(), twin.digest());
+            calls += 2;
+        }
+        due(title, "too many calls", calls > MOST_CALLS, false);
+    }
+
+    private void check(String row) {
         int end = row.indexOf(')') + 1;
         String call = row.substring(0, end);
         String rest = row.substring(end).strip();
-        String want = rest.startsWith("=") ? rest.substring(1).strip() : rest + "Exception";
-        long before = yard.digest();
-        String got = answer(yard, call);
-        due(title, call, got, want);
+        boolean isRefused = !rest.startsWith("=");
         boolean asks = !CHANGING.contains(" " + call.substring(0, call.indexOf('(')) + " ");
-        if (asks || got.startsWith("throws")) {
-            due(title, "digest() after " + call, yard.digest(), before);
+        long before = yard.digest();
+        due(title, call, answer(yard, call), isRefused ? rest + "Exception" : rest.substring(1).strip());
+        if (!asks && !isRefused) {
+            answer(twin, call);
         }
+        long after = yard.digest();
+        due(title, "digest() after " + call, after, asks || isRefused ? before : twin.digest());
+        calls += 3;
     }
 
     private static Method methodOf(Object yard, String name) {
