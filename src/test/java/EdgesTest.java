@@ -22,6 +22,7 @@ public final class EdgesTest {
         roads();
         cranes();
         passing();
+        aheadOfItsHouse();
         moving();
         lastDays();
         snags();
@@ -243,6 +244,33 @@ public final class EdgesTest {
                 module(0, 1, 5) = 0
                 module(0, 1, 4) = 203
                 release(0, 1) throws IllegalState
+                """);
+    }
+
+    private static void aheadOfItsHouse() {
+        Script.run("the module ahead of it of its house, and not the last one of another house", """
+                text 1:1,1:1,1:1,1:1,1:1,1:1
+                addHouse() = 0
+                text 1:1,1:1
+                addHouse() = 1
+                book(0, 5) = 0
+                book(0, 6) = 1
+                book(0, 7) = 2
+                book(0, 8) = 3
+                book(0, 9) = 4
+                book(0, 20) = 5
+                bestDay(1) = 0
+                book(1, 3) = 0
+                book(1, 2) throws IllegalState
+                book(1, 3) = 1
+                unbook(1) = 3
+                unbook(1) = 3
+                book(1, 0) = 0
+                text 9
+                setWinds() = 1
+                pass(1) = 0
+                module(1, 0, 3) = 1
+                module(0, 5, 3) = 20
                 """);
     }
 

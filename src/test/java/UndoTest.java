@@ -19,6 +19,7 @@ public final class UndoTest {
         saves("3", "setWinds()");
         saves("9*60", "setWinds()");
         savesBook();
+        savesTheLastModule();
         savesWhatChangesNothing();
         savesNothing();
         rings();
@@ -64,6 +65,50 @@ public final class UndoTest {
         Script.due("book", "count(12)", yard.count(12), 6);
         Script.due("book", "undo()", yard.undo(), 5);
         Script.due("book", "all that is told behind undo()", told(yard), before);
+    }
+
+    /** All that there is of the last module of the last house comes back too. */
+    private static void savesTheLastModule() {
+        StringBuilder lines = new StringBuilder();
+        for (int house = 0; house < 6; house++) {
+            lines.append("text ").append(house < 5 ? "1:1" : "1:1,1:2,1:3,1:4,1:5,1:2000").append("\naddHouse() = ").append(house).append('\n');
+        }
+        for (int module = 0; module < 6; module++) {
+            lines.append("book(5, ").append(module).append(") = ").append(module).append('\n');
+        }
+        Script.run("all but the buffer and the saved states: the last module of the last house", lines + """
+                set(4, 0) = 5
+                pass(6) = 6
+                inspect(5, 5, 3, 9) = 9
+                inspect(5, 5, 2, 4) = 4
+                claim(5, 5, 0, 3, 11) = 39
+                fix(5, 5, 3, 0) = 20
+                undo() = 5
+                share(5, 5, 3, 0) = 39
+                share(5, 5, 3, 1) = 9
+                module(5, 5, 6) = 11
+                trade(0, 5) = 0
+                undo() = 4
+                share(5, 5, 3, 0) = 50
+                trade(0, 0) = 0
+                release(5, 5) = 100
+                undo() = 4
+                module(5, 5, 4) = 1800
+                module(5, 5, 5) = 200
+                undo() = 3
+                share(5, 5, 2, 1) = 0
+                share(5, 5, 3, 1) = 9
+                undo() = 2
+                undo() = 1
+                module(5, 5, 2) = 1
+                module(5, 5, 4) = 0
+                share(5, 5, 3, 0) = 0
+                share(5, 5, 3, 1) = 0
+                count(2) = 6
+                ends() = 5
+                undo() = 0
+                setting(4) = 5
+                """);
     }
 
     private static void savesWhatChangesNothing() {
