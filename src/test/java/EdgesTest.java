@@ -25,6 +25,7 @@ public final class EdgesTest {
         aheadOfItsHouse();
         moving();
         lastDays();
+        farDays();
         snags();
         costs();
         claims();
@@ -323,6 +324,25 @@ public final class EdgesTest {
                 module(0, 1, 3) = 3
                 count(11) = 3
                 """);
+        Script.run("and that of the module ahead of it of its house: though its own day has room", """
+                text 3:1,1:1
+                addHouse() = 0
+                text 3:1
+                addHouse() = 1
+                set(1, 6) = 5
+                """ + storm + """
+                book(1, 0) = 0
+                book(0, 0) = 0
+                book(0, 1) = 1
+                set(1, 4) = 6
+                pass(1) = 0
+                module(1, 0, 3) = 1
+                module(0, 0, 3) = 2
+                module(0, 1, 3) = 2
+                day(1, 2) = 3
+                day(2, 2) = 4
+                count(11) = 3
+                """);
         Script.run("and that has room for it, as to the modules that were moved already", """
                 text 2:1
                 addHouse() = 0
@@ -407,6 +427,51 @@ public final class EdgesTest {
                 unbook(0) = 1001
                 book(0, 999) throws IllegalState
                 bestDay(0) = -1
+                """);
+    }
+
+    /** Behind the day 1000: the last of 300 days, and as many modules as there can be. */
+    private static void farDays() {
+        String calm = "text 9*39,2,9*20\nsetWinds() = 60\n";
+        for (int modules = 1; modules <= 6; modules++) {
+            StringBuilder lines = new StringBuilder("text 3:1").append(",3:1".repeat(modules - 1)).append("\naddHouse() = 0\n");
+            lines.append("text 9\nsetWinds() = 1\nset(0, 1) = 2\n").append("pass(60) = 0\n".repeat(16));
+            for (int module = 0; module < modules; module++) {
+                lines.append("book(0, ").append(994 + module).append(") = ").append(module).append('\n');
+            }
+            lines.append("pass(40) = 0\nhouse(0, 6) = ").append(999 + modules).append('\n').append(calm);
+            lines.append("ends() = ").append(modules < 6 ? 999 + 60 * modules : -1).append('\n');
+            Script.run("the limit of 1000 days does not matter: for " + modules, lines + """
+                    ifPassed(59, 0) = 0
+                    ifPassed(60, 0) = 1
+                    bestDay(0) = -1
+                    count(4) = 1000
+                    """);
+        }
+        StringBuilder lines = new StringBuilder("set(0, 3) = 2\nset(1, 9) = 5\n").append("pass(60) = 0\n".repeat(16));
+        for (int house = 0; house < 6; house++) {
+            lines.append("text 1:9,1:9,1:9,1:9,1:9,1:9\naddHouse() = ").append(house).append('\n');
+        }
+        for (int i = 0; i < 36; i++) {
+            lines.append("book(").append(i % 6).append(", ").append(988 + i / 3).append(") = ").append(i / 6).append('\n');
+        }
+        Script.run("days above 999 can be, too: for 36 modules", lines + """
+                text 9
+                setWinds() = 1
+                set(0, 1) = 3
+                pass(40) = 0
+                module(0, 0, 3) = 1000
+                module(4, 5, 3) = 1034
+                module(5, 5, 3) = 1035
+                day(1035, 1) = 1
+                ends() = -1
+                ifPassed(60, NONE) = 0
+                text 6
+                setWinds() = 1
+                ends() = 1035
+                ifPassed(36, NONE) = 36
+                ifPassed(35, NONE) = 35
+                unbook(5) = 1035
                 """);
     }
 
@@ -611,6 +676,16 @@ public final class EdgesTest {
                 claim(0, 0, 3, 1, 1) = 749
                 worstTrade() = 1
                 claim(0, 0, 3, 2, 2) = 748
+                worstTrade() = 2
+                claim(0, 0, 0, 3, 749) = 0
+                worstTrade() = 3
+                claim(0, 0, 3, 0, 750) = 0
+                worstTrade() = 0
+                inspect(0, 0, 3, 1) = 2
+                worstTrade() = 3
+                inspect(0, 0, 2, 1) = 2
+                worstTrade() = 3
+                claim(0, 0, 3, 2, 748) = 0
                 worstTrade() = 2
                 """);
         Script.run("of several the lowest number", LIGHT + """

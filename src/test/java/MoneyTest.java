@@ -234,6 +234,15 @@ public final class MoneyTest {
                 fix(0, 0, 1, 0) = 0
                 trade(0, 5) = 1
                 """);
+        Script.run("promise 9: open snags of another module hold nothing back", SET + """
+                set(4, 0) = 5
+                book(0, 1) = 1
+                pass(1) = 1
+                inspect(0, 1, 1, 1) = 1
+                release(0, 0) = 211
+                release(0, 1) = 3
+                share(0, 1, 1, 0) = 1
+                """);
         Script.run("promise 9: throws", SET + """
                 release(-1, 0) throws IndexOutOfBounds
                 release(1, 0) throws IndexOutOfBounds

@@ -170,6 +170,9 @@ public final class QuestionsTest {
                 day(1, 3) = 1
                 day(2, 3) = 0
                 day(9999, 1) = 0
+                day(1006, 1) = 0
+                day(1006, 2) = 0
+                day(1000, 3) = 0
                 day(-1, 0) throws IllegalArgument
                 day(10000, 0) throws IllegalArgument
                 day(-2147483648, 0) throws IllegalArgument

@@ -11,7 +11,9 @@ import java.lang.reflect.Method;
  * A call that throws, and one that only asks, must change nothing: the digest
  * stays, and so does all that it does not tell. A twin, on which such calls
  * are not made, must answer the same to the end: as long as calls are undone,
- * and when all that is booked is moved in a storm.
+ * and when all that is booked is moved in a storm. And a third object, on which
+ * nothing but the calls of the text is made, must answer the same: there no
+ * digest looks at a state ahead of the next call.
  */
 final class Script {
     // Behind so many calls of an object the document promises nothing.
@@ -29,6 +31,7 @@ final class Script {
     private final String title;
     private final ModuleYard yard = new ModuleYard();
     private final ModuleYard twin = new ModuleYard();
+    private final ModuleYard bare = new ModuleYard();
     private int calls = 0;
 
     private Script(String title) {
@@ -84,11 +87,13 @@ final class Script {
                 String text = row.substring(4).strip();
                 type(yard, text);
                 type(twin, text);
+                type(bare, text);
                 calls += 1 + text.length();
             } else if (!row.isEmpty() && !row.startsWith("#")) {
                 check(row);
             }
         }
+        due(title, "digest() behind calls without digests", bare.digest(), yard.digest());
         for (String call : end) {
             due(title, call + " at the end", answer(yard, call), answer(twin, call));
             due(title, "digest() after " + call + " at the end", yard.digest(), twin.digest());
@@ -103,8 +108,10 @@ final class Script {
         String rest = row.substring(end).strip();
         boolean isRefused = !rest.startsWith("=");
         boolean asks = !CHANGING.contains(" " + call.substring(0, call.indexOf('(')) + " ");
+        String want = isRefused ? rest + "Exception" : rest.substring(1).strip();
+        due(title, call + " without a digest ahead of it", answer(bare, call), want);
         long before = yard.digest();
-        due(title, call, answer(yard, call), isRefused ? rest + "Exception" : rest.substring(1).strip());
+        due(title, call, answer(yard, call), want);
         if (!asks && !isRefused) {
             answer(twin, call);
         }

@@ -82,6 +82,11 @@ public final class UndoTest {
                 inspect(5, 5, 3, 9) = 9
                 inspect(5, 5, 2, 4) = 4
                 claim(5, 5, 0, 3, 11) = 39
+                module(5, 5, 7) = 13
+                house(5, 4) = 13
+                house(5, 5) = 189
+                count(8) = 189
+                count(10) = 13
                 fix(5, 5, 3, 0) = 20
                 undo() = 5
                 share(5, 5, 3, 0) = 39
