@@ -554,6 +554,24 @@ public final class EdgesTest {
             }
             Script.run("the day on which it was set and the wait together: " + wait, LIGHT + lines);
         }
+        Script.run("the day on which it was set and the wait together: of one that was moved", LIGHT + """
+                text 9
+                setWinds() = 1
+                book(0, 0) = 0
+                pass(3) = 0
+                text 3
+                setWinds() = 1
+                pass(1) = 1
+                module(0, 0, 3) = 3
+                module(0, 0, 8) = 3
+                count(11) = 3
+                day(3, 3) = 1
+                day(0, 3) = 0
+                pass(3) = 0
+                release(0, 0) throws IllegalState
+                pass(1) = 0
+                release(0, 0) = 400
+                """);
         Script.run("each trade that has no open snags in a module: none has", DEAR + """
                 set(4, 0) = 5
                 inspect(0, 0, 0, 1) = 1

@@ -131,6 +131,19 @@ public final class MoneyTest {
                 fix(0, 0, 3, 2) = 1
                 trade(2, 0) = 54
                 """);
+        Script.run("promise 7: the cost is that of the day on which it is fixed", SET + """
+                inspect(0, 0, 1, 3) = 3
+                set(3, 7) = 20
+                fix(0, 0, 1, 2) = 7
+                set(3, 9) = 7
+                pass(1) = 0
+                fix(0, 0, 1, 2) = 9
+                undo() = 5
+                undo() = 4
+                undo() = 3
+                fix(0, 0, 1, 0) = 7
+                share(0, 0, 1, 0) = 39
+                """);
         Script.run("promise 7: throws", SET + """
                 inspect(0, 0, 1, 1) = 1
                 fix(-1, 0, 1, 1) throws IndexOutOfBounds
